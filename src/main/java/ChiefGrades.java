@@ -719,19 +719,6 @@ public final class ChiefGrades {
         }
 
         void gradeLevelled(World world) {
-            int all = meanOfAll(world);
-            for (int c = 0; c < world.chiefs; c++) {
-                Chief boss = world.chiefAt(c);
-                if (boss == null) continue;
-                gather(world.teamBits(c));
-                markTeam(world, boss);
-                int more = all - meanOfTeam();
-                for (int i = 0; i < size; i++) mark[team[i]] += more;
-                share(world, boss);
-            }
-        }
-
-        private int meanOfAll(World world) {
             for (int c = 0; c < world.chiefs; c++) {
                 Chief boss = world.chiefAt(c);
                 if (boss == null) continue;
@@ -739,7 +726,15 @@ public final class ChiefGrades {
                 markTeam(world, boss);
             }
             gather((1 << world.workers) - 1);
-            return meanOfTeam();
+            int all = meanOfTeam();
+            for (int c = 0; c < world.chiefs; c++) {
+                Chief boss = world.chiefAt(c);
+                if (boss == null) continue;
+                gather(world.teamBits(c));
+                int more = all - meanOfTeam();
+                for (int i = 0; i < size; i++) mark[team[i]] += more;
+                share(world, boss);
+            }
         }
 
         private int meanOfTeam() {

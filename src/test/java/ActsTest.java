@@ -138,7 +138,7 @@ public final class ActsTest {
         x.fresh(11, 12);
         x.year();
         x.book(0, 0, 4);
-        x.book(1, 1, 2);
+        x.book(0, 1, 2);
         Check.feed(x, "one 7");
         long[] before = all(x);
         Check.due("29: three", x.image(), 3);
@@ -174,6 +174,8 @@ public final class ActsTest {
         for (int i = 0; i < 4; i++) {
             for (int k = 0; k < 9; k++) all.add((long) x.of(i, k));
             for (int k = 0; k < 5; k++) all.add((long) x.by(i, k));
+            all.add((long) x.nets(i));
+            all.add(x.leans(0, i, 0));
         }
         all.add((long) x.looked());
         all.add((long) x.nets(-1));

@@ -12,6 +12,7 @@ public final class HousesTest {
         housesByNumber();
         fullAheadOfAll();
         tests();
+        tensAndYears();
         andOrNot();
         moreAndLess();
         told();
@@ -220,6 +221,25 @@ public final class HousesTest {
         }
     }
 
+    /** b is WORTH by 10 (cut), y is THE YEAR modulo 10. */
+    private static void tensAndYears() {
+        ChiefGrades x = new ChiefGrades();
+        Check.house(x, "more 1 b>0;more 1 b>1;more 1 b>4;more 1 b>7;more 1 b>8;more 20 y=0;more 40 y=1;pay 0");
+        x.chief(0, 0, 0);
+        x.worker(0, 0, 0, 0);
+        int[][] due = {{0, 0}, {9, 0}, {10, 1}, {19, 1}, {20, 2}, {49, 2}, {50, 3}, {79, 3}, {80, 4}, {89, 4},
+            {90, 5}, {99, 5}};
+        for (int[] one : due) {
+            x.set(0, 0, one[0]);
+            Check.due("3: b of worth " + one[0], x.mark(0, 0), one[0] + one[1] + 20);
+        }
+        int[] years = {20, 40, 0, 0, 0, 0, 0, 0, 0, 0, 20, 40, 0, 0, 0, 0, 0, 0, 0, 0, 20, 40, 0};
+        for (int year = 0; year < years.length; year++) {
+            Check.due("3: y of the year " + year, x.mark(0, 0), 99 + 5 + years[year]);
+            x.year();
+        }
+    }
+
     private static void andOrNot() {
         String yes = "w=2", no = "w=1";
         test(yes + "&" + yes, true);
@@ -237,6 +257,11 @@ public final class HousesTest {
         test("(" + yes + "|" + no + ")&" + no, false);
         test(no + "&" + no + "|" + yes, true);
         test(no + "&(" + no + "|" + yes + ")", false);
+        test(no + "&(" + yes + "|" + no + ")", false);
+        test(yes + "&(" + no + "|" + yes + ")", true);
+        test(yes + "&!(" + no + "|" + no + ")", true);
+        test(no + "|" + yes + "&(" + no + "|" + yes + ")", true);
+        test(yes + "&(" + yes + "|" + no + "&" + no + ")", true);
         test(no + "|" + no + "|" + no + "|" + yes, true);
         test(yes + "&" + yes + "&" + yes + "&" + no, false);
         test(no + "|(" + no + "|(" + no + "|(" + no + "|(" + yes + "))))", true);

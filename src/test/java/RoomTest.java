@@ -29,6 +29,14 @@ public final class RoomTest {
         for (int i = 0; i < CALLS; i++) one(x, call, i);
     }
 
+    /** A house at each seventh call: an image of none makes place for more than five. */
+    private static void houses(ChiefGrades x, int i) {
+        if (i == 0) x.image();
+        else if (i % 8 == 7) x.undo();
+        else if (i % 8 == 6) x.house();
+        else x.feed("five 1".charAt(i % 8));
+    }
+
     private static void one(ChiefGrades x, int call, int i) {
         switch (call) {
             case 0: x.asked(i % 4, 50); break;
@@ -43,7 +51,7 @@ public final class RoomTest {
             case 9: x.act(i % 4, 2, i); break;
             case 10: x.nets(-1); break;
             case 11: x.wrong(0); break;
-            case 12: x.feed("more 1 w=1".charAt(i % 10)); if (i % 10 == 9) x.house(); break;
+            case 12: houses(x, i); break;
             default: new ChiefGrades();
         }
     }

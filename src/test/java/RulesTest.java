@@ -71,7 +71,7 @@ public final class RulesTest {
             Matcher found = Pattern.compile("\\b" + word + "\\b").matcher(code);
             Check.due("in the source: " + word, found.find() ? 1 : 0, 0);
         }
-        for (String sign : new String[] {"->", "::", "@", "\\u", "instanceof\\s+\\w+\\s+\\w"}) {
+        for (String sign : new String[] {"->", "::", "@", "\\u"}) {
             Check.due("in the source: " + sign, code.contains(sign) ? 1 : 0, 0);
         }
         Check.due("signs 1 to 127", text.chars().allMatch(c -> c > 0 && c < 128) ? 1 : 0, 1);
