@@ -16,7 +16,7 @@ final class Scene {
     /** Two CHIEFS, three WORKERS, and something of all else. */
     static ChiefGrades some() {
         ChiefGrades x = of(2, 3);
-        Check.house(x, "five 5;one 4;pay 3;more 7 k=4&!w>1");
+        Check.due("3: a house", Check.house(x, "five 5;one 4;pay 3;more 7 k=4&!w>1"), 0);
         x.fresh(33, 44);
         x.year();
         x.book(0, 0, 1);
@@ -29,10 +29,12 @@ final class Scene {
     /** Four CHIEFS, ten WORKERS, five HOUSES, 20 rows, 100 signs that are a HOUSE. */
     static ChiefGrades full() {
         ChiefGrades x = of(4, 10);
-        for (int i = 0; i < 5; i++) Check.house(x, "five 4;one 3;pay " + (i + 1) + ";more " + i + "0 w=9|c=3");
+        for (int i = 1; i <= 5; i++) Check.house(x, "five 4;one 3;pay " + i + ";more " + i + "0 w=9|c=3");
         for (int i = 0; i < 20; i++) x.book(9 - i % 10, 3 - i % 4, 5 - i % 5);
         Check.feed(x, hundred());
         x.act(3, 2, 7);
+        int[] full = {10, 4, 5, 20, 100};
+        for (int what = 0; what < 5; what++) Check.due("31: full, what " + what, x.count(what), full[what]);
         return x;
     }
 
