@@ -8,6 +8,7 @@ public final class BookEdgesTest {
         oneRowEach();
         leans();
         looked();
+        lookedAtOnce();
         lookedWithinBounds();
         Check.end("BookEdgesTest");
     }
@@ -163,6 +164,23 @@ public final class BookEdgesTest {
             ChiefGrades x = office();
             for (int i = 0; i < 20; i++) x.book(i % 10, i % 4, i >= wrong ? 4 : 3);
             Check.due("25: the first of several", x.looked(), wrong);
+        }
+    }
+
+    /** The very first row of a new object: its WORKER and its CHIEF, not the first ones. */
+    private static void lookedAtOnce() {
+        for (int grade = 4; grade <= 5; grade++) {
+            ChiefGrades x = office();
+            x.set(9, 0, 90);
+            x.book(9, 3, grade);
+            Check.due("25: the tenth's grade is 5", x.looked(), grade == 5 ? -5 : 0);
+            ChiefGrades y = new ChiefGrades();
+            y.chief(0, 0, 0);
+            y.chief(1, 9, 0);
+            y.worker(0, 75, 0, 0);
+            y.worker(0, 75, 0, 0);
+            y.book(1, 1, grade);
+            Check.due("25: by the lenient one it is 5", y.looked(), grade == 5 ? -5 : 0);
         }
     }
 

@@ -19,6 +19,7 @@ public final class FullTest {
         trace();
         fullTrace();
         imageOfFull();
+        imageOfImage();
         imageOfTape();
         imageOfEmpty();
         images();
@@ -251,8 +252,8 @@ public final class FullTest {
 
     /** All full, then all otherwise, then all as it was: the last of each, too. */
     private static void imageOfFull() {
-        ChiefGrades x = Scene.full(), twin = Scene.full();
-        long[] before = Look.at(x);
+        ChiefGrades x = Scene.full();
+        long[] before = Look.at(Scene.full());
         Check.due("29: ten", x.image(), 10);
         x.house();
         x.clear();
@@ -266,9 +267,16 @@ public final class FullTest {
         Check.due("30: ten", x.undo(), 10);
         x.act(3, 2, 7);
         Look.same("30: all full again", x, before);
+    }
+
+    private static void imageOfImage() {
+        ChiefGrades x = Scene.full();
+        x.image();
+        long[] before = Look.at(x);
+        x.undo();
         x.image();
         x.undo();
-        Look.same("30: an image of an image", x, Look.at(twin));
+        Look.same("30: an image of an image", x, before);
     }
 
     /** A hundred signs come back, the first and the last one, too. */

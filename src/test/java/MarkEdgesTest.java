@@ -1,3 +1,5 @@
+import java.util.function.Supplier;
+
 /** Edges of MARKS, of what a TEST looks at, and of the step from a MARK to a GRADE. */
 public final class MarkEdgesTest {
     public static void main(String[] args) {
@@ -115,42 +117,42 @@ public final class MarkEdgesTest {
         Check.due("12: of ten clauses the first and the last count, too", x.mark(0, 0), 99 + 31 - 2 + 32);
     }
 
-    private static void holds(ChiefGrades x, int worker, int chief, String e) {
+    private static void holds(Supplier<ChiefGrades> scene, int worker, int chief, String e) {
+        ChiefGrades x = scene.get();
         Check.house(x, "more 1 " + e);
         int with = x.mark(worker, chief);
         Check.house(x, "more 0 " + e);
         Check.due("3: " + e + " of " + worker + " by " + chief, with - x.mark(worker, chief), 1);
-        x.undo();
+    }
+
+    private static ChiefGrades one(int kind, int worth, int late) {
+        ChiefGrades x = new ChiefGrades();
+        x.chief(kind, 9, 9);
+        x.worker(0, worth, late, 0);
+        return x;
     }
 
     /** w 0 .. 9, c 0 .. 3, k 0 .. 6: each by its number, and by neither neighbour. */
     private static void workersAndChiefs() {
         for (int c = 0; c < 4; c++) {
-            ChiefGrades x = Scene.of(4, 10);
-            x.image();
+            Supplier<ChiefGrades> x = () -> Scene.of(4, 10);
             for (int w = 0; w < 10; w++) {
                 holds(x, w, c, "w=" + w + "&!w<" + w + "&!w>" + w + "&w<" + (w + 1));
                 if (w > 0) holds(x, w, c, "w>" + (w - 1) + "&!w=" + (w - 1));
                 holds(x, w, c, "c=" + c + "&!c<" + c + "&!c>" + c + "&c<" + (c + 1));
             }
         }
-        for (int kind = 0; kind < 7; kind++) {
-            ChiefGrades x = new ChiefGrades();
-            x.chief(kind, 9, 9);
-            x.worker(0, 50, 50, 0);
-            x.image();
-            holds(x, 0, 0, "k=" + kind + "&!k<" + kind + "&!k>" + kind + "&k<" + (kind + 1));
+        for (int i = 0; i < 7; i++) {
+            int kind = i;
+            holds(() -> one(kind, 50, 50), 0, 0, "k=" + kind + "&!k<" + kind + "&!k>" + kind + "&k<" + (kind + 1));
         }
     }
 
     /** t: none in the TEAM, all ten, and the TEAM as it is for a MARK by another CHIEF. */
     private static void teams() {
-        for (int size = 0; size <= 10; size++) {
-            ChiefGrades x = new ChiefGrades();
-            x.chief(0, 0, 0);
-            x.chief(0, 0, 0);
-            for (int w = 0; w < 10; w++) x.worker(w < size ? 1 : 0, 50, 50, 0);
-            x.image();
+        for (int i = 0; i <= 10; i++) {
+            int size = i;
+            Supplier<ChiefGrades> x = () -> twoTeams(size);
             for (int w = 0; w < 10; w++) {
                 holds(x, w, 1, "t=" + size + "&!t<" + size + "&!t>" + size + "&t<" + (size + 1));
                 holds(x, w, 0, "t=" + (10 - size));
@@ -158,16 +160,19 @@ public final class MarkEdgesTest {
         }
     }
 
+    private static ChiefGrades twoTeams(int ofTheSecond) {
+        ChiefGrades x = new ChiefGrades();
+        x.chief(0, 0, 0);
+        x.chief(0, 0, 0);
+        for (int w = 0; w < 10; w++) x.worker(w < ofTheSecond ? 1 : 0, 50, 50, 0);
+        return x;
+    }
+
     /** b: WORTH by 10 (cut), whatever the KIND makes of LATE. */
     private static void worthByTen() {
-        ChiefGrades x = new ChiefGrades();
-        x.chief(6, 9, 0);
-        x.worker(0, 0, 99, 0);
-        for (int worth = 0; worth < 100; worth++) {
-            x.set(0, 0, worth);
-            x.set(0, 1, 99 - worth);
-            x.image();
-            holds(x, 0, 0, "b=" + worth / 10);
+        for (int i = 0; i < 100; i++) {
+            int worth = i;
+            holds(() -> one(6, worth, 99 - worth), 0, 0, "b=" + worth / 10);
         }
     }
 
@@ -187,8 +192,7 @@ public final class MarkEdgesTest {
 
     /** < and > leave out the number itself; 0 and 99 are numbers, too. */
     private static void relations() {
-        ChiefGrades x = Scene.of(4, 10);
-        x.image();
+        Supplier<ChiefGrades> x = () -> Scene.of(4, 10);
         for (String letter : new String[] {"w", "c", "k", "b", "y", "t"}) {
             holds(x, 0, 0, letter + "<99&!" + letter + ">99&!" + letter + "=99&!" + letter + "<0");
         }

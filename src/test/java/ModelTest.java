@@ -162,11 +162,11 @@ public final class ModelTest {
 
     /** Every chance there is. */
     private static void chances() {
-        ChiefGrades x = new ChiefGrades();
         Model model = new Model();
         for (int h = 0; h <= 31; h += h % 6 == 5 ? 2 : 1) {
             for (int g = -1; g <= h + 1; g++) {
                 for (int n = -1; n <= h + 1; n++) {
+                    ChiefGrades x = new ChiefGrades();
                     for (int m = -1; m <= n + 1; m++) {
                         int part = (h + g + n + m) & 1;
                         Check.due("chance " + h + " " + g + " " + n + " " + m + " " + part,

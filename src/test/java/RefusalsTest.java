@@ -21,10 +21,9 @@ public final class RefusalsTest {
     private static final int[] ASKED = {50, -1, 51, Integer.MIN_VALUE, Integer.MAX_VALUE};
 
     private final ChiefGrades full = Scene.full();
-    private final long[] fullLook = Look.at(full);
 
     public static void main(String[] args) {
-        new RefusalsTest().all();
+        all();
         lastYear();
         noImage();
         houses();
@@ -32,18 +31,24 @@ public final class RefusalsTest {
         Check.end("RefusalsTest");
     }
 
-    private void all() {
+    private static void all() {
+        long[] before = Look.at(Scene.full());
         for (int i = 0; i < 5; i++) {
             for (int j = 0; j < 5; j++) {
-                two(i, j);
-                for (int k = 0; k < 5; k++) {
-                    three(i, j, k);
-                    for (int l = 0; l < 5; l++) four(i, j, k, l);
-                }
+                RefusalsTest test = new RefusalsTest();
+                test.all(i, j);
+                Look.same("refused calls of what is full", test.full, before);
+                Check.due("refused calls of what is full: its house", test.full.house(), FULL);
             }
         }
-        Look.same("refused calls of what is full", full, fullLook);
-        Check.due("refused calls of what is full: its house", full.house(), FULL);
+    }
+
+    private void all(int i, int j) {
+        two(i, j);
+        for (int k = 0; k < 5; k++) {
+            three(i, j, k);
+            for (int l = 0; l < 5; l++) four(i, j, k, l);
+        }
     }
 
     /** The refusal of what is full: NONE, then BAD, then FULL. */
@@ -106,14 +111,13 @@ public final class RefusalsTest {
     }
 
     private static void noImage() {
-        ChiefGrades x = Scene.full(), twin = Scene.full();
-        long[] before = Look.at(x);
+        ChiefGrades x = Scene.full();
+        long[] before = Look.at(Scene.full());
         Check.due("30: no image", x.undo(), STATE);
         Look.same("30: no image", x, before);
         x.image();
-        twin.image();
         Check.due("30: an image", x.undo(), 10);
-        Look.same("30: an image", x, Look.at(twin));
+        Look.same("30: an image", x, before);
     }
 
     /** FULL goes ahead of the FAULT of an empty, of a wrong, of a right TAPE, and all stay. */
@@ -133,15 +137,16 @@ public final class RefusalsTest {
 
     /** Two objects do the same; one of them is asked and refused between. */
     private static void twins() {
-        for (int seed = 0; seed < 40; seed++) {
+        for (int seed = 0; seed < 800; seed++) {
             Random plain = new Random(seed), odd = new Random(seed + 1000);
-            ChiefGrades x = new ChiefGrades(), twin = new ChiefGrades();
-            for (int i = 0; i < 200; i++) {
+            int chiefs = 1 + plain.nextInt(4), workers = plain.nextInt(11);
+            ChiefGrades x = Scene.of(chiefs, workers), twin = Scene.of(chiefs, workers);
+            for (int i = 0; i < 30; i++) {
                 int op = plain.nextInt(14), a = plain.nextInt(), b = plain.nextInt();
                 long got = act(x, op, a, b), want = act(twin, op, a, b);
                 Check.due("seed " + seed + " call " + i + " op " + op, got, want);
                 for (int k = odd.nextInt(4); k > 0; k--) refused(x, odd.nextInt(15), odd.nextInt(6));
-                if (odd.nextBoolean()) Look.at(x);
+                if (i == 20) Look.at(x);
             }
             Look.same("seed " + seed, x, Look.at(twin));
         }

@@ -3,7 +3,9 @@ import java.lang.management.ManagementFactory;
 /** All calls of a run live in one room: what the dearest runs make is counted in bytes. */
 public final class RoomTest {
     // 7.3 million fields and elements and 600,000 objects, at 4 bytes each at least
-    private static final long MOST_BYTES = 7_300_000L * 4, CALLS = 512;
+    private static final long MOST_BYTES = 7_300_000L * 4;
+    // with those that come first in a run it is 512 of them
+    private static final int CALLS = 512 - 115;
 
     private static final com.sun.management.ThreadMXBean MEMORY =
         (com.sun.management.ThreadMXBean) ManagementFactory.getThreadMXBean();

@@ -18,7 +18,9 @@ public final class RulesTest {
 
     public static void main(String[] args) throws Exception {
         face();
-        source(Files.readString(Path.of("src/main/java/ChiefGrades.java")));
+        String text = Files.readString(Path.of("src/main/java/ChiefGrades.java"));
+        source(text);
+        lengths(text.split("\n"));
         Check.end("RulesTest");
     }
 
@@ -52,6 +54,9 @@ public final class RulesTest {
         for (Class<?> c : inside) {
             Check.due("static " + c, Modifier.isStatic(c.getModifiers()) ? 1 : 0, 1);
             Check.due("not public " + c, Modifier.isPublic(c.getModifiers()) ? 1 : 0, 0);
+            for (Method m : c.getDeclaredMethods()) {
+                Check.due("arguments of " + m, m.getParameterCount() <= 7 ? 1 : 0, 1);
+            }
             long own = Arrays.stream(c.getDeclaredFields()).filter(f -> !Modifier.isStatic(f.getModifiers())).count();
             Check.due("fields of " + c, own <= 20 ? 1 : 0, 1);
         }
@@ -59,6 +64,21 @@ public final class RulesTest {
 
     private static boolean isHidden(Member m) {
         return Modifier.isPrivate(m.getModifiers());
+    }
+
+    private static void lengths(String[] lines) {
+        int methods = 0;
+        for (int i = 0; i < lines.length; i++) {
+            String indent = lines[i].replaceAll("\\S.*", "");
+            boolean isMethod = lines[i].matches(" {4}( {4})?\\w.*\\(.*\\) \\{")
+                && !lines[i].matches(" *(if|for|while|switch|do|else)\\b.*");
+            if (!isMethod) continue;
+            methods++;
+            int end = i;
+            while (end < lines.length && !lines[end].equals(indent + "}")) end++;
+            Check.due("lines of" + lines[i], end - i < 60 ? 1 : 0, 1);
+        }
+        Check.due("methods found: " + methods, methods > 100 ? 1 : 0, 1);
     }
 
     private static void source(String text) {

@@ -29,7 +29,8 @@ final class Scene {
     /** Four CHIEFS, ten WORKERS, five HOUSES, 20 rows, 100 signs that are a HOUSE. */
     static ChiefGrades full() {
         ChiefGrades x = of(4, 10);
-        for (int i = 1; i <= 5; i++) Check.house(x, "five 4;one 3;pay " + i + ";more " + i + "0 w=9|c=3");
+        for (int i = 1; i < 5; i++) Check.house(x, "pay " + i);
+        Check.house(x, "five 4;one 3;pay 5;more 50 w=9|c=3");
         for (int i = 0; i < 20; i++) x.book(9 - i % 10, 3 - i % 4, 5 - i % 5);
         Check.feed(x, hundred());
         x.act(3, 2, 7);

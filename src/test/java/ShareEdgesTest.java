@@ -26,6 +26,13 @@ public final class ShareEdgesTest {
         return x;
     }
 
+    /** So many YEARS on; new ones are as good as those who are out. */
+    private static ChiefGrades inYear(int year, ChiefGrades x) {
+        x.fresh(90, 0);
+        for (int i = 0; i < year; i++) x.year();
+        return x;
+    }
+
     private static int withGrade(ChiefGrades x, int grade) {
         int bits = 0;
         for (int w = 0; w < x.count(0); w++) {
@@ -111,22 +118,18 @@ public final class ShareEdgesTest {
     /** "THE YEAR modulo the size, and on, and round": of team 0 .. size - 1 with one 3. */
     private static void turning() {
         for (int size = 1; size <= 10; size++) {
-            ChiefGrades x = team("one 3;pay 0", 2, 9, size, 90, 0);
-            x.fresh(90, 0);
             for (int year = 0; year <= 99; year++) {
                 int due = 0, place = year % size;
                 for (int i = 0; i < share(size, 3); i++) {
                     due |= 1 << place;
                     place = place == size - 1 ? 0 : place + 1;
                 }
+                ChiefGrades x = inYear(year, team("one 3;pay 0", 2, 9, size, 90, 0));
                 Check.due("7: turning, " + size + " in the year " + year, withGrade(x, 1), due);
-                x.year();
             }
         }
         // years by a way that go beyond YEAR 99: in the years 99, 100, 101 the places 3, 0, 1 of four
-        ChiefGrades x = team("one 3;pay 1", 2, 0, 4, 90, 0);
-        x.fresh(90, 0);
-        for (int i = 0; i < 99; i++) x.year();
+        ChiefGrades x = inYear(99, team("one 3;pay 1", 2, 0, 4, 90, 0));
         int[] due = {1 + 5 + 5 + 5, 5 + 1 + 5 + 5, 5 + 5 + 1 + 5, 5 + 5 + 5 + 1};
         int[] years = {100, 101, 102, 99};
         for (int w = 0; w < 4; w++) {
@@ -139,10 +142,7 @@ public final class ShareEdgesTest {
     }
 
     private static ChiefGrades keepers(int v, int year) {
-        ChiefGrades x = team("one 5;pay 0", 5, v, 5, 90, 0);
-        x.fresh(90, 0);
-        for (int i = 0; i < year; i++) x.year();
-        return x;
+        return inYear(year, team("one 5;pay 0", 5, v, 5, 90, 0));
     }
 
     /** Two ONES of five, kept is v: the other one goes by turns among the four others. */
@@ -358,6 +358,14 @@ public final class ShareEdgesTest {
             x.set(0, 0, 70);
             Check.due("16: just not, from v " + v, x.asked(0, 5), -5);
         }
+        // NEAR: 71 and 9 less how far apart; its DESK stays, whatever its v becomes
+        int[][] nears = {{0, 9, 9}, {9, 0, 9}, {0, 0, 0}, {9, 9, 0}, {3, 7, 4}, {7, 2, 5}};
+        for (int[] n : nears) {
+            ChiefGrades x = new ChiefGrades();
+            x.chief(4, 0, n[0]);
+            x.worker(0, 71, 0, n[1]);
+            Check.due("16: near, " + n[0] + " and " + n[1], x.asked(0, 5), n[2]);
+        }
         ChiefGrades ten = team("one 0", 1, 0, 10, 80, 0);
         Check.due("16: 50 of ten", ten.asked(0, 50), 0);
         ten.set(9, 0, 71);
@@ -365,6 +373,15 @@ public final class ShareEdgesTest {
         Check.due("16: 50 of ten by 9 more", ten.asked(0, 50), 9);
         ten.set(9, 0, 70);
         Check.due("16: 50 of ten by none", ten.asked(0, 50), -5);
+    }
+
+    /** Two WORKERS of WORTH 50, each of a CHIEF of its own. */
+    private static ChiefGrades pair(String house) {
+        ChiefGrades x = new ChiefGrades();
+        Check.due("3: " + house, Check.house(x, house), 0);
+        for (int c = 0; c < 2; c++) x.chief(0, 0, 0);
+        for (int w = 0; w < 2; w++) x.worker(w, 50, 0, 0);
+        return x;
     }
 
     /** The first pair by the lesser, then by the other number: from 0 and 1 to 8 and 9. */
@@ -380,6 +397,12 @@ public final class ShareEdgesTest {
                 Check.due("17: " + one + " and " + other, x.swap(1), 10 * one + other);
             }
         }
+        // "the GRADES of both were greater": than their GRADES, not than their DUES
+        ChiefGrades below = pair("less 20 w<2;more 20 w=0&c=1|w=1&c=0");
+        Check.due("17: from 2 to 3, due is 3", below.swap(0), 1);
+        Check.due("17: these two", below.swap(1), 1);
+        ChiefGrades above = pair("more 20 w=0&c=0|w=1&c=1;more 10 w=0&c=1|w=1&c=0");
+        Check.due("17: from 4 to 4, due is 3", above.swap(0), 0);
         ChiefGrades all = new ChiefGrades();
         Check.house(all, "more 20 w<5&c=1|w>4&c=0");
         all.chief(0, 0, 0);

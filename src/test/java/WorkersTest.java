@@ -5,6 +5,7 @@ public final class WorkersTest {
 
     public static void main(String[] args) {
         chief();
+        ofEachKind();
         worker();
         of();
         by();
@@ -33,6 +34,21 @@ public final class WorkersTest {
         Check.due("5: BAD ahead of FULL", x.chief(0, 10, 0), BAD);
         Check.due("5: NONE ahead of FULL", x.chief(7, 0, 0), NONE);
         Check.due("5: four", x.count(1), 4);
+    }
+
+    /** Of each KIND with each v and each DESK: all three are as they were told. */
+    private static void ofEachKind() {
+        for (int kind = 0; kind < 7; kind++) {
+            for (int v = 0; v < 10; v++) {
+                ChiefGrades x = new ChiefGrades();
+                for (int i = 0; i < 4; i++) x.chief(kind, v, (kind + v + 3 * i) % 10);
+                for (int i = 0; i < 4; i++) {
+                    Check.due("8: kind", x.by(i, 0), kind);
+                    Check.due("8: v of kind " + kind, x.by(i, 1), v);
+                    Check.due("8: desk of kind " + kind, x.by(i, 2), (kind + v + 3 * i) % 10);
+                }
+            }
+        }
     }
 
     private static void worker() {

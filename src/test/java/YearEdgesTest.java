@@ -202,19 +202,16 @@ public final class YearEdgesTest {
 
     /** YEARS of n are n times a YEAR. */
     private static void oneByOne() {
-        ChiefGrades x = Scene.full();
-        x.fresh(61, 3);
-        int[] asked = new int[21];
-        for (int n = 0; n <= 20; n++) asked[n] = x.years(n, 0, 1);
-        int[][] pays = new int[21][10];
         for (int n = 0; n <= 20; n++) {
-            for (int w = 0; w < 10; w++) pays[n][w] = x.years(n, 0, 10 + w);
-        }
-        int out = 0;
-        for (int n = 0; n <= 20; n++) {
-            Check.due("19: outs of " + n, asked[n], out);
-            for (int w = 0; w < 10; w++) Check.due("19: pay of " + w + " in " + n, pays[n][w], x.of(w, 4));
-            out += x.year();
+            ChiefGrades x = Scene.full();
+            x.fresh(61, 3);
+            int asked = x.years(n, 0, 1);
+            int[] pays = new int[10];
+            for (int w = 0; w < 10; w++) pays[w] = x.years(n, 0, 10 + w);
+            int out = 0;
+            for (int i = 0; i < n; i++) out += x.year();
+            Check.due("19: outs of " + n, asked, out);
+            for (int w = 0; w < 10; w++) Check.due("19: pay of " + w + " in " + n, pays[w], x.of(w, 4));
         }
     }
 
